@@ -430,6 +430,10 @@ public final class PromiseTest {
         is("all that the shop has", shop.sum(0, 12, 0), 6);
         is("its rue", shop.sum(0, 12, 1), 4);
         is("one beyond", shop.sum(0, 13, 0), NONE);
+        ForgoneShop first = laid("a0;a0;u0,0,9,1;u1,0,5,2;s90,4;x1;");
+        is("the first thing", first.sum(0, 9, 0), 1);
+        is("not what is of another", first.sum(1, 6, 0), NONE);
+        is("a dearer one of its own", first.sum(1, 5, 1), 2);
     }
 
     private static void taking() {
@@ -457,6 +461,12 @@ public final class PromiseTest {
         is("none is as much", none.take(2, 1), 0);
         is("no things", laid("a0;").take(5, 0), 0);
         is("in the cellar nothing", laid("a0;").take(5, 1), 0);
+        ForgoneShop first = laid("a0;u0,1,3,1;u0,0,5,1;u0,0,6,1;u0,0,4,1;s90,4;x1;");
+        is("not the first, too far", first.take(3, 0), 14);
+        first.sell(1);
+        first.sell(2);
+        is("two that are there", first.take(3, 0), 8);
+        is("two that are there", first.take(3, 1), 8 + 9 + 7);
     }
 
     private static void bestDay() {
@@ -474,6 +484,7 @@ public final class PromiseTest {
             is("thing " + bad, shop.when(bad, 0), BAD);
             is("what " + bad, shop.when(0, bad), BAD);
         }
+        is("the next day", laid("a0;u0,1,4,1;x1;x2;x0;").when(0, 0), 1);
         ForgoneShop never = laid("a0;u0,0,4,1;x0;");
         is("never", never.when(0, 0), 0);
         is("nothing", never.when(0, 1), 0);
@@ -532,6 +543,13 @@ public final class PromiseTest {
         is("then the next", same.swap(1), 1);
         is("then the last", same.swap(2), 2);
         is("nothing at all", laid("a0;").swap(-1), 0);
+        ForgoneShop all = laid("a0;a0;a0;a0;a0;u0,0,5,20;u0,0,5,18;u1,0,5,16;u1,0,5,14;u2,0,5,12;u2,0,5,10;"
+            + "u3,0,5,8;u4,0,5,6;");
+        is("all", all.swap(-1), 10 + 9 + 8 + 7 + 6 + 5 + 4 + 3);
+        int[] ways = {1, 1, 0, 0, 3, 4, 2, 2};
+        for (int t = 0; t < 8; t++) {
+            is("all, thing " + t, all.swap(t), ways[t]);
+        }
     }
 
     private static void seeing() {
@@ -619,6 +637,7 @@ public final class PromiseTest {
         sureIs(new int[] {3, 0, 1, 1}, NONE, NONE);
         sureIs(new int[] {3, 1, 1, 0}, 27, 34);
         sureIs(new int[] {9, 5, 4, 4}, 9, 10);
+        sureIs(new int[] {5, 5, 1, 0}, 1, 2);
         int[] good = {1, 0, 0, 0, 0};
         int[] low = {1, 0, 0, 0, 0};
         int[] high = {9, 9, 4, 4, 1};
@@ -718,6 +737,7 @@ public final class PromiseTest {
         ForgoneShop nothing = laid("a0;");
         is("no things", nothing.year(9999, 60, 0), 0);
         is("no rue", nothing.year(9999, 60, 1), 0);
+        is("one thing", laid("a0;u0,0,9,2;x1;").year(0, 1, 0), 10);
         is("as at first", new ForgoneShop().year(5, 60, 0), 121);
         is("as at first", new ForgoneShop().year(5, 60, 1), 796);
     }
