@@ -29,6 +29,20 @@ final class Check {
         }
     }
 
+    /** A test of one answer. */
+    void edge(String name, long got, long want) {
+        begin(name);
+        same("it", got, want);
+    }
+
+    /** A test of what is seen. */
+    void edge(String name, String got, String want) {
+        begin(name);
+        if (!got.equals(want)) {
+            fail("seen is\n" + got + "\ndue is\n" + want);
+        }
+    }
+
     void fail(String why) {
         wrong = true;
         System.out.println(test + ": " + why);

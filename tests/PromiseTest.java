@@ -711,8 +711,8 @@ public final class PromiseTest {
     }
 
     private static void years() {
-        // with z = 0, k = 0 the draw is 1: thing 0, sold; k = 1: 6152 times 6152 is 41887 modulo 65521,
-        // by 8 that is 5235, modulo 2 thing 1, and 41887 modulo 8 is 7: nothing
+        // with z = 0, k = 0 the draw is 1: thing 0, sold; k = 1: 6152 times 6152 is 41487 modulo 65521,
+        // by 8 that is 5185, modulo 2 thing 1, and 41487 modulo 8 is 7: nothing
         ForgoneShop shop = laid("a0;a9;u0,0,9,2;u1,0,9,3;s60,0;x1;");
         is("a day", shop.year(0, 1, 0), 10);
         is("its rue", shop.year(0, 1, 1), 2);
