@@ -195,9 +195,8 @@ public final class ForgoneShop {
             }
             choice.offer(t, now.price(plan, t), comes);
         }
-        if (!choice.find(plan.things, allowed, 0, now.shopMoney)) {
-            return what == 0 ? 0 : there;
-        }
+        // none of them is always one of the sets
+        choice.find(plan.things, allowed, 0, now.shopMoney);
         return what == 0 ? choice.set : there + choice.worth;
     }
 
@@ -855,6 +854,8 @@ public final class ForgoneShop {
         /** Of sets of allowed things with a price from least to most that worth most, the lowest of several. */
         private boolean find(int things, int allowed, int least, int most) {
             addUp(things);
+            set = 0;
+            worth = 0;
             boolean found = false;
             int end = 1 << Math.min(things, MOST_THINGS);
             for (int bits = 0; bits < end; bits++) {
